@@ -12,6 +12,7 @@ public final class PromiseTests {
         takingForgetsAll();
         tellingFlaws();
         cellsOfFlaws();
+        surfaceOfEachSide();
         cells();
         flawsInStones();
         sawing();
@@ -30,10 +31,13 @@ public final class PromiseTests {
         counts();
         wouldBe();
         wouldBeFacets();
+        wouldBeOpen();
+        wouldBeFarOff();
         wouldBeBeyondTheLimits();
         depths();
         depthsOfFacets();
         ridding();
+        riddingEachWay();
         riddingOfParts();
         kept();
         digest();
@@ -143,7 +147,9 @@ public final class PromiseTests {
         Check.bounds(x, "stone(1, 0)", () -> x.stone(1, 0));
         Check.bounds(x, "plane(0, 0, 0)", () -> x.plane(0, 0, 0));
         Check.bounds(x, "flawIn(0, 0, 0)", () -> x.flawIn(0, 0, 0));
+        would(x, "no flaws are left", new int[] {1, 0, 0, 1}, 0, 86, 0, 0);
         Check.same("the next flaw", 0, x.flaw(1, 1, 1, 0, 1));
+        flawIn(x, "it has its own cells alone", 0, 0, 1, 1, 1);
         Check.same("the next stone", 1, x.saw(0, 1, 0, 0, 0));
         Check.same("it keeps no plane", 0, x.stone(1, 1));
         x.cut(0, 0, 1, 0, 1);
@@ -179,6 +185,10 @@ public final class PromiseTests {
         Check.argument(x, "no radius before the eleventh flaw", () -> x.flaw(0, 0, 0, 4, 1));
         Check.argument(x, "no severity before the eleventh flaw", () -> x.flaw(0, 0, 0, 0, 0));
         Check.bounds(x, "no cell before the eleventh flaw", () -> x.flaw(0, 0, 5, 0, 1));
+        would(x, "with ten flaws", new int[] {0, 0, 1, 0}, 48, 134, 0, 0);
+        Check.same("saw z > 0", 1, x.saw(0, 0, 0, 1, 0));
+        Check.same("flaws in the lower part", 0, x.stone(0, 5) + x.stone(0, 6));
+        Check.same("flaws in the upper part", 10, x.stone(1, 5) + x.stone(1, 6));
     }
 
     private static void cellsOfFlaws() {
@@ -200,6 +210,26 @@ public final class PromiseTests {
         GemCut y = rough(5, 1, 1);
         y.flaw(1, 0, 0, 3, 1);
         flawIn(y, "in a rod", 0, 0, 5, 5, 1);
+    }
+
+    /** A cell of which one neighbour alone is another stone's is at the surface, whichever neighbour it is. */
+    private static void surfaceOfEachSide() {
+        int[][] orders = {{3, 2, 1}, {3, 1, 2}, {2, 3, 1}, {1, 3, 2}, {2, 1, 3}, {1, 2, 3}};
+        for (int[] steep : orders) {
+            for (int signs = 0; signs < 8; signs++) {
+                int p = (signs & 1) == 0 ? steep[0] : -steep[0];
+                int q = (signs & 2) == 0 ? steep[1] : -steep[1];
+                int r = (signs & 4) == 0 ? steep[2] : -steep[2];
+                int height = 2 * p + 3 * q + 4 * r;
+                String label = "beside " + p + ", " + q + ", " + r;
+                GemCut x = rough(6, 7, 8);
+                x.flaw(2, 3, 4, 0, 1);
+                x.saw(0, p, q, r, height + 3);
+                flawIn(x, label + ", off the cell", 0, 0, 1, 0, 0);
+                x.saw(0, p, q, r, height + 2);
+                flawIn(x, label + ", next to the cell", 0, 0, 1, 1, 1);
+            }
+        }
     }
 
     // ---- promise 4
@@ -689,6 +719,8 @@ public final class PromiseTests {
         would(x, "the new plane is just one", new int[] {-1, 0, 0, 0}, 0, 277, 0, 1);
         x.cut(0, -1, 0, 0, 0);
         would(x, "two pairs", new int[] {1, 0, 0, 1}, 0, 317, 0, 2);
+        // 3 + 60, and 25, and 40
+        would(x, "the pair in the lowest row", new int[] {0, 1, 0, 0}, 12, 128, 0, 1);
         would(x, "one pair is lost", new int[] {-1, 0, 0, -1}, 9, 163, 0, 1);
         Check.same("what is polished stays", 1, x.stone(0, 3));
         GemCut y = rough(4, 1, 1);
@@ -697,6 +729,35 @@ public final class PromiseTests {
         // between 6 and 9 the plane lies off the stone, and -3, 0, 0 is a facet still
         would(y, "a steep plane", new int[] {-3, 0, 0, 2}, 0, 73, 1, 1);
         would(y, "a steep plane further off", new int[] {-3, 0, 0, 3}, 0, 33, 1, 0);
+    }
+
+    private static void wouldBeOpen() {
+        GemCut x = rough(5, 5, 5);
+        x.flaw(2, 2, 2, 0, 1);
+        int[][] open = {{1, 0, 0}, {0, -1, 0}, {0, 0, 1}, {-1, 1, 0}, {1, 1, -1}, {0, 2, -1}, {-3, 2, 3}};
+        for (int[] slope : open) {
+            int height = 2 * (slope[0] + slope[1] + slope[2]);
+            int reach = Math.max(Math.abs(slope[0]), Math.max(Math.abs(slope[1]), Math.abs(slope[2])));
+            for (int off = -1; off <= 4; off++) {
+                Check.same("at the height " + off + " over the flaw", off >= 0 && off < reach ? 1 : 0,
+                        x.would(0, slope[0], slope[1], slope[2], height + off, 2));
+            }
+        }
+    }
+
+    private static void wouldBeFarOff() {
+        GemCut x = rough(10, 10, 10);
+        int[] depths = {-100, -82, -81, -80, -79, -78, -4, -3, -1, 0, 100};
+        int[] taken = {1000, 1000, 999, 999, 999, 996, 4, 1, 1, 0, 0};
+        for (int k = 0; k < depths.length; k++) {
+            Check.same("would(0, -3, -3, -3, " + depths[k] + ", 0)", taken[k],
+                    x.would(0, -3, -3, -3, depths[k], 0));
+        }
+        depths = new int[] {-100, -1, 0, 1, 2, 3, 77, 78, 80, 81, 100};
+        taken = new int[] {1000, 1000, 999, 999, 999, 996, 4, 1, 1, 0, 0};
+        for (int k = 0; k < depths.length; k++) {
+            Check.same("would(0, 3, 3, 3, " + depths[k] + ", 0)", taken[k], x.would(0, 3, 3, 3, depths[k], 0));
+        }
     }
 
     private static void wouldBeBeyondTheLimits() {
@@ -818,6 +879,29 @@ public final class PromiseTests {
         Check.bounds(x, "rid(LEAST, MOST, MOST)", () -> x.rid(LEAST, MOST, MOST));
     }
 
+    private static void riddingEachWay() {
+        GemCut x = rough(9, 9, 9);
+        x.flaw(0, 4, 4, 1, 1);
+        x.flaw(8, 4, 4, 1, 1);
+        x.flaw(4, 0, 4, 1, 1);
+        x.flaw(4, 8, 4, 1, 1);
+        x.flaw(4, 4, 0, 1, 1);
+        x.flaw(4, 4, 8, 1, 1);
+        // two layers; a plane of two directions would take 21 * 9
+        int[] numbers = {4, 22, 10, 16, 12, 14};
+        for (int f = 0; f < 6; f++) {
+            rid(x, "by the side " + f, f, 0, numbers[f], f % 2 == 0 ? -2 : 6, 162);
+        }
+        x.flaw(4, 8, 8, 0, 1);
+        x.flaw(0, 4, 8, 0, 1);
+        x.flaw(0, 0, 4, 0, 1);
+        x.flaw(8, 0, 8, 0, 1);
+        rid(x, "by the edge of y and z", 6, 0, 17, 15, 9);
+        rid(x, "by the edge of x and z", 7, 0, 5, 7, 9);
+        rid(x, "by the edge of x and y", 8, 0, 1, -1, 9);
+        rid(x, "by a corner", 9, 0, 20, 15, 1);
+    }
+
     private static void riddingOfParts() {
         GemCut x = rough(6, 1, 1);
         x.flaw(2, 0, 0, 1, 1);
@@ -856,6 +940,8 @@ public final class PromiseTests {
         x.cut(1, 0, 0, 1, -1);
         x.cut(0, 0, 0, 1, -1);
         Check.same("none", 0.0, x.kept());
+        x.take(1, 1, 1);
+        Check.same("of a single cell", 1.0, x.kept());
         x.take(3, 1, 1);
         Check.same("of another rough", 1.0, x.kept());
         x.cut(0, 1, 0, 0, 1);
