@@ -101,7 +101,7 @@ public final class GemCut {
             throw new IllegalStateException("there are 8 stones, or one of the two would be empty");
         }
         int made = stoneCount;
-        stones[made].clear();
+        stones[made].dropPlanes();
         stoneCount++;
         trial.giveAbove(d, made);
         survey();
@@ -299,7 +299,7 @@ public final class GemCut {
 
     private void beginRough(int columns, int rows, int layers) {
         rough.begin(columns, rows, layers);
-        stones[0].clear();
+        stones[0].dropPlanes();
         stoneCount = 1;
         turns = FULL_WHEEL;
         spent = 0;
@@ -672,9 +672,8 @@ public final class GemCut {
             }
         }
 
-        void clear() {
+        void dropPlanes() {
             planeCount = 0;
-            forgetCells();
         }
 
         void forgetCells() {

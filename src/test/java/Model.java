@@ -3,7 +3,7 @@ import java.util.List;
 
 /**
  * The document once more, as plainly as its words go: nothing is kept that can be counted, and what would be is
- * told by doing it to a copy. Slow, and written without a look at GemCut.
+ * told by doing it to a copy. Slow, and without a line in common with GemCut.
  */
 final class Model {
     static final class Facet {
@@ -148,14 +148,16 @@ final class Model {
     }
 
     private boolean atSurface(int[] c) {
+        int[][] sides = {{1, 0, 0}, {-1, 0, 0}, {0, 1, 0}, {0, -1, 0}, {0, 0, 1}, {0, 0, -1}};
         int stone = rough[c[0]][c[1]][c[2]];
-        int sides = 0;
-        for (int[] o : cellsOf(stone)) {
-            if (Math.abs(o[0] - c[0]) + Math.abs(o[1] - c[1]) + Math.abs(o[2] - c[2]) == 1) {
-                sides++;
-            }
+        int same = 0;
+        for (int[] side : sides) {
+            int x = c[0] + side[0];
+            int y = c[1] + side[1];
+            int z = c[2] + side[2];
+            same += inRough(x, y, z) && rough[x][y][z] == stone ? 1 : 0;
         }
-        return sides < 6;
+        return same < 6;
     }
 
     private List<int[]> flawCells(int flaw, int stone) {

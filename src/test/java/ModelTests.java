@@ -1,33 +1,45 @@
 /** Long runs of calls, each answer of GemCut compared with that of Model. The runs are always the same ones. */
 public final class ModelTests {
-    private static final int RUNS = 500;
-    private static final int MOST_CALLS = 512;
+    private static final int RUNS = 300;
+    /** One step asks three calls at most, and of an object no more than 512 are promised. */
+    private static final int LONG_RUN = 509;
 
     private final GemCut bench = new GemCut();
     private final Model model = new Model();
     private final int run;
-    private int side;
+    private final int most;
+    private int columns;
+    private int rows;
+    private int layers;
+    private int made;
     private long seed;
 
     private ModelTests(int run) {
         this.run = run;
         this.seed = 40503L * run + 7;
         // The model is slow, so that only some runs have large roughs.
-        this.side = run % 25 == 0 ? 10 : run % 5 == 0 ? 5 : 4;
+        this.most = run % 25 == 0 ? 10 : run % 3 == 0 ? 6 : 5;
     }
 
     public static void main(String[] args) {
         for (int run = 0; run < RUNS; run++) {
-            new ModelTests(run).go(run % 25 == 0 ? 60 : run % 10 == 0 ? MOST_CALLS : 150);
+            new ModelTests(run).go(run % 10 == 9 ? LONG_RUN : 150);
         }
         Check.end();
     }
 
     private void go(int calls) {
-        take(below(side) + 1, below(side) + 1, below(side) + 1);
-        for (int done = 1; done < calls; done++) {
+        takeAny();
+        for (int steps = 0; steps < calls && made < calls; steps++) {
             one();
         }
+    }
+
+    private void takeAny() {
+        columns = below(most) + 1;
+        rows = Math.max(1, most - below(most));
+        layers = Math.max(1, most - below(3));
+        take(columns, rows, layers);
     }
 
     /** A number from 0 to n - 1. */
@@ -36,60 +48,68 @@ public final class ModelTests {
         return (int) ((seed >>> 33) % n);
     }
 
-    private int stone() {
-        int stones = bench.count(2);
-        return below(30) == 0 ? below(2) * (stones + 1) - 1 : below(stones);
+    private boolean seldom() {
+        return below(60) == 0;
     }
 
-    private int flaw() {
-        int flaws = bench.count(4);
-        return flaws == 0 || below(30) == 0 ? below(2) * (flaws + 1) - 1 : below(flaws);
+    /** From 0 to n - 1, but seldom one beyond either end. */
+    private int number(int n) {
+        return n == 0 || seldom() ? below(2) * (n + 1) - 1 : below(n);
+    }
+
+    /** Mostly one of which something is left. */
+    private int stone() {
+        int stone = number(model.count(2));
+        for (int tries = 0; tries < 3 && weight(stone) == 0; tries++) {
+            stone = number(model.count(2));
+        }
+        return stone;
+    }
+
+    private int weight(int stone) {
+        return stone < 0 || stone >= model.count(2) ? 0 : model.stone(stone, 0);
     }
 
     private int plane(int stone) {
-        int planes = stone < 0 || stone >= bench.count(2) ? 0 : bench.stone(stone, 1);
-        return planes == 0 || below(30) == 0 ? below(2) * (planes + 1) - 1 : below(planes);
+        return number(stone < 0 || stone >= model.count(2) ? 0 : model.stone(stone, 1));
     }
 
-    private int steep() {
-        return below(40) == 0 ? below(2) * 8 - 4 : below(3) > 0 ? below(3) - 1 : below(7) - 3;
-    }
-
-    private int what(int most) {
-        return below(30) == 0 ? below(2) * (most + 2) - 1 : below(most + 1);
-    }
-
-    private int coordinate() {
-        return below(30) == 0 ? -1 : below(side);
+    private int[] slope() {
+        int[] slope = new int[3];
+        for (int tries = 0; tries < 5 && slope[0] == 0 && slope[1] == 0 && slope[2] == 0; tries++) {
+            int steep = below(3) == 0 ? 3 : 1;
+            for (int k = 0; k < 3; k++) {
+                slope[k] = seldom() ? below(2) * 8 - 4 : below(2 * steep + 1) - steep;
+            }
+        }
+        return slope;
     }
 
     /** Mostly near the end of the stone, so that cuts are small and many facets stay. */
-    private int deep(int stone, int p, int q, int r) {
-        int kind = below(20);
-        if (kind == 0) {
+    private int deep(int stone, int[] slope) {
+        if (seldom()) {
             return below(2) * 202 - 101;
         }
-        if (kind == 1) {
+        if (seldom()) {
             return below(2) * 200 - 100;
         }
-        if (kind < 5) {
-            return below(40) - 20;
-        }
         int high = -100;
-        for (int x = 0; x < side; x++) {
-            for (int y = 0; y < side; y++) {
-                for (int z = 0; z < side; z++) {
-                    if (isCellOf(stone, x, y, z)) {
-                        high = Math.max(high, p * x + q * y + r * z);
+        int low = 100;
+        for (int x = 0; x < columns; x++) {
+            for (int y = 0; y < rows; y++) {
+                for (int z = 0; z < layers; z++) {
+                    if (model.cell(x, y, z) == stone) {
+                        int height = slope[0] * x + slope[1] * y + slope[2] * z;
+                        high = Math.max(high, height);
+                        low = Math.min(low, height);
                     }
                 }
             }
         }
-        return high - below(4);
-    }
-
-    private boolean isCellOf(int stone, int x, int y, int z) {
-        return Check.answer(() -> model.cell(x, y, z)).equals(String.valueOf(stone));
+        if (high < low) {
+            return below(20) - 10;
+        }
+        return below(8) == 0 ? low - 2 + below(high - low + 5) : high + 1 - below(3);
     }
 
     private void take(int columns, int rows, int layers) {
@@ -98,21 +118,25 @@ public final class ModelTests {
     }
 
     private void same(String call, Check.Call due, Check.Call asked) {
+        made++;
         Check.same("run " + run + ": " + call, Check.answer(due), Check.answer(asked));
     }
 
     private void one() {
+        if (model.count(1) * 6 < model.count(0) && below(8) == 0) {
+            takeAny();
+        }
         int kind = below(100);
-        if (kind < 8) {
-            int x = coordinate();
-            int y = coordinate();
-            int z = coordinate();
-            int radius = below(20) == 0 ? 4 : below(4);
-            int severity = below(20) == 0 ? below(2) * 10 : below(3) == 0 ? below(9) + 1 : below(2) + 1;
+        if (kind < 6) {
+            int x = number(columns);
+            int y = number(rows);
+            int z = number(layers);
+            int radius = seldom() ? 4 : below(4);
+            int severity = seldom() ? below(2) * 10 : below(3) == 0 ? below(9) + 1 : below(2) + 1;
             same("flaw(" + x + ", " + y + ", " + z + ", " + radius + ", " + severity + ")",
                     () -> model.flaw(x, y, z, radius, severity), () -> bench.flaw(x, y, z, radius, severity));
         } else if (kind < 45) {
-            planeCall(kind - 8);
+            planeCall(kind - 6);
         } else if (kind < 60) {
             changeCall(kind - 45);
         } else if (kind < 96) {
@@ -124,25 +148,26 @@ public final class ModelTests {
         }
     }
 
-    /** kind from 0 to 36 */
+    /** kind from 0 to 38 */
     private void planeCall(int kind) {
         int s = stone();
-        int p = steep();
-        int q = steep();
-        int r = steep();
-        int d = deep(s, p, q, r);
+        int[] slope = slope();
+        int p = slope[0];
+        int q = slope[1];
+        int r = slope[2];
+        int d = deep(s, slope);
         String where = "(" + s + ", " + p + ", " + q + ", " + r;
-        if (kind < 3) {
+        if (kind < 4) {
             same("saw" + where + ", " + d + ")", () -> model.saw(s, p, q, r, d), () -> bench.saw(s, p, q, r, d));
-        } else if (kind < 20) {
+        } else if (kind < 14) {
             same("cut" + where + ", " + d + ")", () -> model.cut(s, p, q, r, d), () -> bench.cut(s, p, q, r, d));
-            if (below(2) == 0) {
-                int e = deep(s, -p, -q, -r);
+            if (below(3) == 0) {
+                int e = deep(s, new int[] {-p, -q, -r});
                 same("cut" + where + " the other way, " + e + ")",
                         () -> model.cut(s, -p, -q, -r, e), () -> bench.cut(s, -p, -q, -r, e));
             }
-        } else if (kind < 32) {
-            int what = what(3);
+        } else if (kind < 30) {
+            int what = number(4);
             same("would" + where + ", " + d + ", " + what + ")",
                     () -> model.would(s, p, q, r, d, what), () -> bench.would(s, p, q, r, d, what));
         } else {
@@ -158,34 +183,36 @@ public final class ModelTests {
             same("polish(" + s + ", " + k + ")", () -> model.polish(s, k), () -> bench.polish(s, k));
         } else if (kind < 14) {
             same("dress()", model::dress, bench::dress);
-        } else if (below(4) == 0) {
-            take(below(side + 1), below(side) + 1, below(30) == 0 ? 11 : below(side) + 1);
+        } else if (below(8) == 0) {
+            takeAny();
+        } else {
+            take(below(6) * 2 + 1, below(6) * 3 - 2, 0);
         }
     }
 
     /** kind from 0 to 35 */
     private void tellCall(int kind) {
         int s = stone();
-        int f = flaw();
+        int f = number(model.count(4));
         if (kind < 6) {
-            int what = what(2);
+            int what = number(3);
             same("flawIn(" + f + ", " + s + ", " + what + ")",
                     () -> model.flawIn(f, s, what), () -> bench.flawIn(f, s, what));
         } else if (kind < 10) {
-            int what = what(2);
+            int what = number(3);
             same("rid(" + f + ", " + s + ", " + what + ")",
                     () -> model.rid(f, s, what), () -> bench.rid(f, s, what));
         } else if (kind < 14) {
-            int x = coordinate();
-            int y = coordinate();
-            int z = coordinate();
+            int x = number(columns);
+            int y = number(rows);
+            int z = number(layers);
             same("cell(" + x + ", " + y + ", " + z + ")", () -> model.cell(x, y, z), () -> bench.cell(x, y, z));
         } else if (kind < 23) {
-            int what = what(8);
+            int what = number(9);
             same("stone(" + s + ", " + what + ")", () -> model.stone(s, what), () -> bench.stone(s, what));
         } else if (kind < 28) {
             int k = plane(s);
-            int what = what(5);
+            int what = number(6);
             same("plane(" + s + ", " + k + ", " + what + ")",
                     () -> model.plane(s, k, what), () -> bench.plane(s, k, what));
         } else if (kind < 32) {
@@ -193,7 +220,7 @@ public final class ModelTests {
             int b = plane(s);
             same("angle(" + s + ", " + a + ", " + b + ")", () -> model.angle(s, a, b), () -> bench.angle(s, a, b));
         } else {
-            int what = what(7);
+            int what = number(8);
             same("count(" + what + ")", () -> model.count(what), () -> bench.count(what));
         }
     }
