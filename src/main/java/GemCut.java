@@ -733,8 +733,6 @@ public final class GemCut {
         final int[] heights = new int[MOST_CELLS];
         /** How many cells of the stone are as high as -81, -80, .. 81, or lower. */
         final int[] upTo = new int[2 * MOST_HEIGHT + 1];
-        int lowest;
-        int highest;
         /** For each plane that the stone keeps: the height of the lowest cell that touches it. */
         final int[] floors = new int[MOST_PLANES];
 
@@ -747,8 +745,6 @@ public final class GemCut {
         void level(Stone newPiece, int p, int q, int r) {
             piece = newPiece;
             tried.set(p, q, r, 0);
-            lowest = MOST_HEIGHT;
-            highest = -MOST_HEIGHT;
             for (int h = 0; h < upTo.length; h++) {
                 upTo[h] = 0;
             }
@@ -770,8 +766,6 @@ public final class GemCut {
             heights[i] = height;
             if (rough.owner[i] == piece.number && height >= -MOST_HEIGHT && height <= MOST_HEIGHT) {
                 upTo[height + MOST_HEIGHT]++;
-                lowest = Math.min(lowest, height);
-                highest = Math.max(highest, height);
             }
         }
 
@@ -894,15 +888,22 @@ public final class GemCut {
             return worthBy(weightAt(d), points, polishedAt(d), pairsAt(d));
         }
 
+        /** Neither below the lowest cell of the stone nor above the highest one. */
+        private boolean isWithin(int d) {
+            return weightAt(d) > 0 && weightAt(d - 1) < piece.weight;
+        }
+
         /** Of a stone of which something is left. */
         int bestDepth() {
-            int best = lowest;
+            int best = 0;
             int bestWorth = 0;
-            for (int d = lowest; d <= highest; d++) {
-                int worth = worthAt(d);
-                if (worth >= bestWorth) {
-                    best = d;
-                    bestWorth = worth;
+            for (int d = -MOST_HEIGHT; d <= MOST_HEIGHT; d++) {
+                if (isWithin(d)) {
+                    int worth = worthAt(d);
+                    if (worth >= bestWorth) {
+                        best = d;
+                        bestWorth = worth;
+                    }
                 }
             }
             return best;
