@@ -1,3 +1,5 @@
+import java.math.BigInteger;
+
 /** Counts and prints the answers that are not the due ones. */
 final class Check {
     interface Call {
@@ -43,6 +45,16 @@ final class Check {
         long before = x.digest();
         same(label, want, answer(call));
         same(label + " and then digest()", before, x.digest());
+    }
+
+    /** The checksum of these numbers without a bound, of which the lowest 64 bits are told; it must be beyond them. */
+    static long digestOf(int... told) {
+        BigInteger d = BigInteger.valueOf(577);
+        for (int x : told) {
+            d = d.multiply(BigInteger.valueOf(31)).add(BigInteger.valueOf(x));
+        }
+        same("the checksum is beyond 64 bits", true, d.bitLength() > 64);
+        return d.longValue();
     }
 
     static void end() {
