@@ -581,6 +581,16 @@ public final class BoundaryTests {
         }
         Check.same("a seventeenth", Twins.STATE, answerOfCut(x, 1));
         stone(x, "the first one keeps its own", 0, 4, 16, 16, 1, 0, 0, 0, 41 + 25, 4);
+        int[] lefts = {0, 2};
+        for (int left : lefts) {
+            GemCut y = new GemCut();
+            Benches.turnsLeft(y, left);
+            Check.same("sawing with " + left + " turns", 1, y.saw(0, 1, 0, 0, 4));
+            Check.same("half of it", 500, y.stone(1, 0));
+            Check.same("the turns stay", left, y.count(5));
+            Check.same("sawing once more", 2, y.saw(1, 0, 0, 1, 8));
+            Check.same("the turns that were spent", 400 - left, y.count(7));
+        }
     }
 
     // ---- "are greater than d together", "the greatest of p, q, r, without their signs"

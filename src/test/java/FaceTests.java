@@ -8,23 +8,29 @@ import java.util.List;
 
 /** The public face: what the document lists, and nothing else that is not private. */
 public final class FaceTests {
+    private static final String BOUNDS = " throws IndexOutOfBoundsException";
+    private static final String ARGUMENT = " throws IllegalArgumentException";
+    private static final String BOUNDS_ARGUMENT = BOUNDS + ", IllegalArgumentException";
+    private static final String BOUNDS_STATE = BOUNDS + ", IllegalStateException";
+    private static final String ALL_THREE = BOUNDS_ARGUMENT + ", IllegalStateException";
+
     private static final String[] FACE = {
         "double kept()",
-        "int angle(int,int,int)",
-        "int cell(int,int,int)",
-        "int count(int)",
-        "int cut(int,int,int,int,int)",
-        "int depth(int,int,int,int)",
+        "int angle(int,int,int)" + BOUNDS,
+        "int cell(int,int,int)" + BOUNDS,
+        "int count(int)" + BOUNDS,
+        "int cut(int,int,int,int,int)" + ALL_THREE,
+        "int depth(int,int,int,int)" + ALL_THREE,
         "int dress()",
-        "int flaw(int,int,int,int,int)",
-        "int flawIn(int,int,int)",
-        "int plane(int,int,int)",
-        "int polish(int,int)",
-        "int rid(int,int,int)",
-        "int saw(int,int,int,int,int)",
-        "int stone(int,int)",
-        "int take(int,int,int)",
-        "int would(int,int,int,int,int,int)",
+        "int flaw(int,int,int,int,int)" + ALL_THREE,
+        "int flawIn(int,int,int)" + BOUNDS,
+        "int plane(int,int,int)" + BOUNDS,
+        "int polish(int,int)" + BOUNDS_STATE,
+        "int rid(int,int,int)" + BOUNDS,
+        "int saw(int,int,int,int,int)" + ALL_THREE,
+        "int stone(int,int)" + BOUNDS,
+        "int take(int,int,int)" + ARGUMENT,
+        "int would(int,int,int,int,int,int)" + BOUNDS_ARGUMENT,
         "long digest()",
     };
 
@@ -56,7 +62,10 @@ public final class FaceTests {
         Check.same("constructors", 1, made.length);
         Check.same("its modifiers", Modifier.PUBLIC, made[0].getModifiers());
         Check.same("its parameters", 0, made[0].getParameterCount());
+        Check.same("its exceptions", 0, made[0].getExceptionTypes().length);
         for (Class<?> c : GemCut.class.getDeclaredClasses()) {
+            int shown = c.getModifiers() & (Modifier.PUBLIC | Modifier.PROTECTED);
+            Check.same(c + " is private or package-visible", 0, shown);
             Check.same(c + " is static", true, Modifier.isStatic(c.getModifiers()));
         }
         Check.end();
@@ -69,6 +78,11 @@ public final class FaceTests {
         for (int i = 0; i < types.length; i++) {
             text.append(i == 0 ? "" : ",").append(types[i].getName());
         }
-        return text.append(')').toString();
+        text.append(')');
+        Class<?>[] thrown = m.getExceptionTypes();
+        for (int i = 0; i < thrown.length; i++) {
+            text.append(i == 0 ? " throws " : ", ").append(thrown[i].getSimpleName());
+        }
+        return text.toString();
     }
 }

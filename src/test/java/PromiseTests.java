@@ -41,6 +41,7 @@ public final class PromiseTests {
         riddingOfParts();
         kept();
         digest();
+        theExampleOfTheReadme();
         Check.end();
     }
 
@@ -1005,5 +1006,21 @@ public final class PromiseTests {
             }
         }
         return d;
+    }
+
+    // ---- README.md
+
+    private static void theExampleOfTheReadme() {
+        GemCut bench = new GemCut();
+        int flaw = bench.flaw(5, 5, 5, 2, 3);
+        Check.same("the flaw", 0, flaw);
+        Check.same("the plane 1, 1, 1", 26, bench.rid(flaw, 0, 0));
+        int depth = bench.rid(flaw, 0, 1);
+        Check.same("its depth", 12, depth);
+        Check.same("the cells that it takes away", 10, bench.cut(0, 1, 1, 1, depth));
+        Check.same("turns of the wheel", 400 - 30, bench.count(5));
+        Check.same("10 cells touch its facet", 15, bench.polish(0, 0));
+        // 206 cells: 4243 and 2060, without the flaw, and 25
+        Check.same("its worth", 6328, bench.stone(0, 7));
     }
 }

@@ -389,7 +389,12 @@ public final class WouldBeTests {
         x.flaw(9, 9, 9, 0, 1);
         rid(x, "without turns", 0, 0, 26, 26, 1);
         x.flaw(4, 4, 4, 3, 1);
-        Check.same("more than any wheel has", true, x.rid(1, 0, 2) > 133);
+        x.flaw(4, 4, 4, 0, 1);
+        x.flaw(4, 5, 4, 0, 1);
+        // x + y + z is at most 12 for 425 cells, and 13, 14 and 15 for 75, 75 and 73
+        rid(x, "more cells than a wheel has turns", 1, 0, 0, -16, 425 + 75 + 75 + 73);
+        rid(x, "half of them, near the midst", 2, 0, 0, -13, 425);
+        rid(x, "half of them, by another corner", 3, 0, 6, -4, 425);
         GemCut y = new GemCut();
         Benches.planed(y, 16);
         y.flaw(1, 1, 1, 0, 1);
